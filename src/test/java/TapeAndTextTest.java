@@ -106,6 +106,16 @@ public final class TapeAndTextTest {
         Check.dueFault("scenes 00001;", 1, 7);
         Check.dueFault("scenes 1a;", 1, 7);
         Check.dueFault("scenes -1;", 1, 7);
+        // The ends of the small letters and of the digits, and the signs beside them.
+        Check.dueFault("scenes 1z;", 1, 7);
+        Check.dueFault("scenes 5z", 1, 7);
+        Check.dueFault("scenes z1;", 1, 7);
+        Check.dueFault("scenes 1`;", 1, 8);
+        Check.dueFault("scenes 1{;", 1, 8);
+        Check.dueFault("scenes 1/;", 1, 8);
+        Check.dueFault("scenes 1:;", 1, 8);
+        Check.dueFault("scenes 1A;", 1, 8);
+        Check.dueFault("scenes 1;z", 1, 9);
         Check.dueFault("scenes\t1;", 1, 6);
         Check.dueFault("scenes\r1;", 1, 6);
         Check.dueFault("scenes 1\u0000;", 1, 8);
