@@ -283,7 +283,7 @@ public final class VarianceBridge {
         int digits = 0;
         int ahead = 0;
         for (int place = 0; place < FACTORS; place++) {
-            int next = factorBehind(order, place, ahead);
+            int next = factorAt(order, place, ahead);
             digits = digits * 10 + next;
             ahead |= 1 << next;
         }
@@ -294,7 +294,7 @@ public final class VarianceBridge {
     private static int aheadInOrder(int order, int factor) {
         int ahead = 0;
         for (int place = 0; place < FACTORS; place++) {
-            int next = factorBehind(order, place, ahead);
+            int next = factorAt(order, place, ahead);
             if (next == factor) {
                 break;
             }
@@ -304,7 +304,7 @@ public final class VarianceBridge {
     }
 
     /** The FACTOR at a place of an ORDER, whose FACTORS ahead of that place (bits) are known. */
-    private static int factorBehind(int order, int place, int ahead) {
+    private static int factorAt(int order, int place, int ahead) {
         int skip = order / WAYS_BEHIND[place] % (FACTORS - place);
         int found = 0;
         for (int factor = 0; factor < FACTORS; factor++) {
