@@ -24,6 +24,16 @@ final class Check {
         due(call, got ? 1 : 0, want ? 1 : 0);
     }
 
+    static void dueText(String call, String got, String want) {
+        checks++;
+        if (!got.equals(want)) {
+            wrong++;
+            if (wrong <= 50) {
+                System.out.println(call + " is" + got + "\n    due is" + want);
+            }
+        }
+    }
+
     static void dueThrow(VarianceBridge x, int node, int what) {
         long thrown = 0;
         try {

@@ -100,6 +100,11 @@ final class Model {
         return tape.length;
     }
 
+    /** The tape at once, without the calls that would bring it. */
+    void tape(byte[] bytes) {
+        tape = bytes.clone();
+    }
+
     boolean end(int n) {
         if (n < 0 || n > tape.length) {
             return false;

@@ -4,7 +4,8 @@ import java.util.Random;
 /** Long runs of calls, with a fixed seed, on the class and on the model side by side. */
 public final class ModelTest {
     private static final int RUNS = 400;
-    private static final int CALLS = 480;
+    /** No run begins a further step at this count: a text takes 41 calls, and 512 are promised. */
+    private static final int CALLS = 470;
     private static final int[] ODD = {-1, -2, 4, 5, 20, 120, 1000, Integer.MAX_VALUE, Integer.MIN_VALUE};
     private static final String[] PIECES = {
         "scenes", "group", "line", "set", ";", " ", "\n", "0", "1", "2", "16", "999", "1000", "10000",
