@@ -28,6 +28,7 @@ public final class AskEdgesTest {
         mixRefused();
         flattersFirstOfLike();
         flattersLastOrder();
+        flattersOfOneAmongOthers();
         flattersRefused();
         moverOfLike();
         moverRefused();
@@ -535,6 +536,21 @@ public final class AskEdgesTest {
         VarianceBridge u = line("1 90 50 150 10", "9 10 60 100 100");
         Check.due("units behind yield alone", u.flatters(1, 0, 1, 0), 96);
         Check.due("it is the most", u.effect(1, 0, 1, 96, 0), 8 * (135 - 50));
+    }
+
+    /** Lines that pull apart: each is asked for itself, and no answer leaves anything for the next. */
+    private static void flattersOfOneAmongOthers() {
+        VarianceBridge x = Check.made("scenes 2;group 0;line 1;group 0;line 3;set 2 0 1 3 0 100 100;"
+                + "set 2 1 2 4 0 100 100;set 4 0 100 400 0 100 100;set 4 1 200 300 0 100 100;");
+        int[] nodes = {2, 4, 1, 3, 0, 2, 0, 1};
+        int[] units = {24, 0, 24, 0, 0, 24, 0, 24};
+        int[] price = {0, 24, 0, 24, 24, 0, 24, 0};
+        for (int i = 0; i < nodes.length; i++) {
+            Check.due("units of " + nodes[i], x.flatters(nodes[i], 0, 1, 0), units[i]);
+            Check.due("price of " + nodes[i], x.flatters(nodes[i], 0, 1, 1), price[i]);
+            Check.due("effect between", x.effect(4, 0, 1, 0, 0), 40000);
+            Check.due("units once more", x.flatters(nodes[i], 0, 1, 0), units[i]);
+        }
     }
 
     private static void flattersRefused() {

@@ -19,6 +19,7 @@ public final class TextEdgesTest {
         nowOfEach();
         nowRefused();
         everyByteAsToken();
+        everyLetterOfTheWords();
         digitsOfNumbers();
         scenesOneToFour();
         parentsToldAhead();
@@ -380,6 +381,33 @@ public final class TextEdgesTest {
                 due("scenes 1" + sign, 1, 0);
             } else {
                 due("scenes 1 " + sign, isBlank(b) ? -11 : -10, 1);
+            }
+        }
+    }
+
+    /** A WORD with one letter another, missing, twice, or no small one: it can't come, at its place. */
+    private static void everyLetterOfTheWords() {
+        String[] heads = {"", "scenes 1;", "scenes 1;", "scenes 1;line 0;"};
+        String[] words = {"scenes", "group", "line", "set"};
+        String[] tails = {" 1;", " 0;", " 0;", " 1 0 1 1 1 1 10;"};
+        for (int i = 0; i < words.length; i++) {
+            String head = heads[i];
+            String word = words[i];
+            String tail = tails[i];
+            int fault = -1 - head.length();
+            due(head + word + tail, i == 0 ? 1 : i == 3 ? 3 : 2, 0);
+            due(head + word + "s" + tail, fault, 1);
+            due(head + "a" + word + tail, fault, 1);
+            for (int at = 0; at < word.length(); at++) {
+                String before = head + word.substring(0, at);
+                String behind = word.substring(at + 1) + tail;
+                char letter = word.charAt(at);
+                due(before + (char) (letter + 1) + behind, fault, 1);
+                due(before + (char) (letter - 1) + behind, fault, 1);
+                due(before + (char) (letter - 32) + behind, fault, 1);
+                due(before + (char) (letter + 128) + behind, fault, 1);
+                due(before + letter + letter + behind, fault, 1);
+                due(before + behind, fault, 1);
             }
         }
     }
