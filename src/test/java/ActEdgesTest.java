@@ -11,11 +11,14 @@ public final class ActEdgesTest {
         setToWhatItIs();
         setRefused();
         copyOfNoneAndAll();
+        copyBehindAnotherText();
         copyRefused();
         moveTaken();
         moveRefused();
         growUntilFull();
+        growInTheDeepestGroup();
         growRefused();
+        undoOfTheFirstLeaf();
         undoOfNone();
         undoOfTenAtMost();
         undoRoundTheRing();
@@ -122,6 +125,16 @@ public final class ActEdgesTest {
             Check.due("as in 0", z.factor(2, 1, k), k < 3 ? 0 : 100);
             Check.due("the other way: none", z.copy(1, 0), 0);
         }
+    }
+
+    /** Where an earlier text had a line, a group has no FACTORS that could be others. */
+    private static void copyBehindAnotherText() {
+        VarianceBridge x = Check.made("scenes 2;line 0;line 0;set 1 0 9 9 9 9 99;set 2 1 8 8 8 8 88;");
+        Check.readText(x, "scenes 2;group 0;line 0;");
+        Check.due("none", x.copy(0, 1), 0);
+        Check.due("none, back", x.copy(1, 0), 0);
+        x.set(2, 1, 4, 50);
+        Check.due("one", x.copy(1, 0), 1);
     }
 
     private static void copyRefused() {
@@ -240,6 +253,29 @@ public final class ActEdgesTest {
         }
     }
 
+    /** Fifteen groups, one below the other, and a leaf in the lowest: no tree goes deeper. */
+    private static void growInTheDeepestGroup() {
+        StringBuilder deep = new StringBuilder("scenes 2;");
+        for (int n = 0; n < 15; n++) {
+            deep.append("group ").append(n).append(';');
+        }
+        VarianceBridge x = Check.made(deep.toString());
+        Check.due("grow", x.grow(15), 16);
+        x.set(16, 1, 0, 3);
+        x.set(16, 1, 1, 4);
+        for (int n = 0; n <= 16; n++) {
+            Check.due("leaves below " + n, Settled.node(x, n, 3), 1 << 16);
+            Check.due("value of " + n, x.value(n, 1), 12);
+            Check.due("new below " + n, x.effect(n, 0, 1, -1, 5), 12);
+        }
+        Check.due("the leaf is below the top", x.now(2), 1);
+        Check.due("the first mover", x.mover(0, 1, 0), 16);
+        Check.due("the first group", x.branch(0, 1), 1);
+        Check.due("the uppermost into the lowest", x.move(1, 15), false);
+        Check.due("the leaf to the top", x.move(16, 0), true);
+        Check.due("none below the uppermost", Settled.node(x, 1, 3), 0);
+    }
+
     private static void growRefused() {
         for (int n : Settled.NO_NODES) {
             Settled.refused("grow of " + n, -1, x -> x.grow(n));
@@ -258,6 +294,18 @@ public final class ActEdgesTest {
     }
 
     // Promise 23.
+
+    /** The top had been alone, and is alone again. */
+    private static void undoOfTheFirstLeaf() {
+        VarianceBridge x = new VarianceBridge();
+        Check.due("grow", x.grow(0), 1);
+        Check.due("a leaf", Settled.node(x, 0, 3), 2);
+        Check.due("undo", x.undo(), 0);
+        Check.due("nodes", x.now(1), 1);
+        Check.due("no node 1", Settled.node(x, 1, 1), Settled.THROWS);
+        Check.due("nothing below the top", Settled.node(x, 0, 2), 0);
+        Check.dueText("as new", Settled.story(x), Settled.story(new VarianceBridge()));
+    }
 
     private static void undoOfNone() {
         Settled.refusedWhenNew("undo", -1, VarianceBridge::undo);

@@ -30,6 +30,7 @@ public final class TextEdgesTest {
         fifteenNodes();
         faultsTheFirstAlongTheText();
         everyBeginningOfAText();
+        everyEndOfATape();
         everyPlaceRoundTheSixHundredth();
         Check.finish("TextEdgesTest");
     }
@@ -640,6 +641,39 @@ public final class TextEdgesTest {
         due("scenes 1;line", -14, 1);
         due("scenes 1;line 0", -16, 1);
         due("scenes 1;line 0\n\n\n", -19, 1);
+    }
+
+    /** What end() has cut off is gone, though it would go on with the last TOKEN or come as the next. */
+    private static void everyEndOfATape() {
+        String text = "scenes 2 ;group 0;\nline 1; set 2 1 12 34 56 78 90 ; line 0;";
+        String full = text + " ".repeat(620 - text.length()) + "linelineline;;;;;;;;";
+        for (int n = 0; n <= 640; n = n < text.length() || n >= 596 && n < 640 ? n + 1 : n < 596 ? 596 : 641) {
+            String head = full.substring(0, n);
+            VarianceBridge x = new VarianceBridge();
+            Model m = new Model();
+            Check.feedBytes(x, Check.bytesOf(full));
+            Check.due("end(" + n + ")", x.end(n), true);
+            m.tape(Check.bytesOf(head));
+            Check.due("text of the first " + n, x.text(), m.text());
+            Check.due("fault of the first " + n, x.fault(), m.fault());
+        }
+        VarianceBridge x = new VarianceBridge();
+        Check.feedBytes(x, Check.bytesOf("scenes 19;"));
+        x.end(8);
+        Check.due("a digit that is gone", x.text(), -9);
+        Check.due("the end can't come", x.fault(), 1);
+        Check.feedBytes(x, Check.bytesOf("scenes 1;line 0;;"));
+        x.end(15);
+        Check.due("a sign that is gone", x.text(), -16);
+        Check.feedBytes(x, Check.bytesOf("scenes 1;line 0;"));
+        x.end(9);
+        Check.due("a line that is gone", x.text(), 1);
+        // A TOKEN up to the last byte that a tape can have.
+        due("s".repeat(640), -1, 1);
+        due("1".repeat(640), -1, 1);
+        due(" ".repeat(599) + "s".repeat(41), -600, 1);
+        due("scenes" + " ".repeat(593) + "1".repeat(41), -600, 1);
+        due("scenes 1;" + " ".repeat(591) + "s".repeat(40), -601, 1);
     }
 
     private static void everyPlaceRoundTheSixHundredth() {
