@@ -2,6 +2,7 @@ import java.lang.reflect.Constructor;
 import java.lang.reflect.Field;
 import java.lang.reflect.Method;
 import java.lang.reflect.Modifier;
+import java.util.NoSuchElementException;
 import java.util.TreeSet;
 
 /** The class has the document's face and no other member that can be seen from outside. */
@@ -27,6 +28,10 @@ public final class FaceTest {
         Check.due("constructors", constructors.length, 1);
         Check.due("constructor is public", Modifier.isPublic(constructors[0].getModifiers()), true);
         Check.due("its parameters", constructors[0].getParameterCount(), 0);
+        Check.due("no package", face.getPackageName().isEmpty(), true);
+        Check.due("it is of no other class", face.getSuperclass() == Object.class, true);
+        Check.due("and implements none", face.getInterfaces().length, 0);
+        checkThrows(face);
         Check.finish("FaceTest");
     }
 
@@ -45,6 +50,8 @@ public final class FaceTest {
         Check.due("further methods " + seen, seen.size(), 0);
         for (Class<?> inside : face.getDeclaredClasses()) {
             Check.due(inside.getName() + " is static", Modifier.isStatic(inside.getModifiers()), true);
+            boolean seenFromOutside = (inside.getModifiers() & (Modifier.PUBLIC | Modifier.PROTECTED)) != 0;
+            Check.due(inside.getName() + " is public or protected", seenFromOutside, false);
             for (Method method : inside.getDeclaredMethods()) {
                 Check.due("a name of the face in " + inside, names.contains(method.getName()), false);
             }
@@ -52,6 +59,16 @@ public final class FaceTest {
         for (Method method : face.getDeclaredMethods()) {
             boolean hidden = Modifier.isPrivate(method.getModifiers());
             Check.due("private " + method.getName(), hidden && names.contains(method.getName()), false);
+        }
+    }
+
+    /** node() alone says that it throws, and what. */
+    private static void checkThrows(Class<?> face) {
+        for (Method method : face.getDeclaredMethods()) {
+            Class<?>[] told = method.getExceptionTypes();
+            boolean isNode = method.getName().equals("node");
+            Check.due(method.getName() + " says what it throws", told.length, isNode ? 1 : 0);
+            Check.due("it is the right one", isNode && told[0] != NoSuchElementException.class, false);
         }
     }
 
